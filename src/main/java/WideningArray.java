@@ -135,6 +135,7 @@ public final class WideningArray {
         if (replaced == NONE) {
             throw new IllegalArgumentException("no disk is replaced");
         }
+        // Power can't be made to fail while a disk is not rebuilt, so its writes need not wait.
         int d = replaced;
         rebuildDataRows(d);
         rebuildStash(d);
@@ -220,8 +221,6 @@ public final class WideningArray {
         }
     }
 
-    // What must hold before a call goes on.
-
     private void checkServing() {
         if (!made || failed) {
             throw new IllegalStateException("no array, or no power");
@@ -245,8 +244,6 @@ public final class WideningArray {
             throw new UnsupportedOperationException("power failed");
         }
     }
-
-    // How things are.
 
     private int diskCount() {
         return now.widened ? now.width + 1 : now.width;
@@ -296,8 +293,6 @@ public final class WideningArray {
         return (parityDisk(k, row) + 1 + j) % k;
     }
 
-    // Words as they are told, a disk that is absent too.
-
     private int wordOfBlock(int b, int i) {
         int place = placeOf(b);
         if (place == IN_WINDOW) {
@@ -338,8 +333,7 @@ public final class WideningArray {
         return true;
     }
 
-    // Writes: issued to disks, done at waiting points.
-
+    /** A waiting point behind the call's last one stands for the last one. */
     private void beginWrites(int points) {
         failPoint = Math.min(failPoint, points);
     }
@@ -353,7 +347,7 @@ public final class WideningArray {
         if (failPoint > 0) {
             failPoint--;
         }
-        failed = fails;
+        failed = failed || fails;
         return !fails;
     }
 
@@ -399,8 +393,6 @@ public final class WideningArray {
         disks[parityDisk(k, row)].issueBlock(row, parity, 0);
     }
 
-    // The parts of a step.
-
     private void fetchWindow() {
         for (int j = 0; j < now.width; j++) {
             int b = firstOfWindow() + j;
@@ -444,8 +436,6 @@ public final class WideningArray {
         return awaitWrites();
     }
 
-    // Rebuilding a disk. Power can't fail there, so the disk has its words at once.
-
     private void rebuildDataRows(int d) {
         for (int row = 0; row < DATA_ROWS; row++) {
             int k = widthOfRow(row);
@@ -471,8 +461,6 @@ public final class WideningArray {
             disks[d].setWord(row, i, wordByTheRest(k, row, d, i));
         }
     }
-
-    // Starting anew.
 
     private Marks highestMarks() {
         Marks highest = disks[0].marksIn(0);
@@ -571,7 +559,7 @@ public final class WideningArray {
             }
         }
 
-        /** Does the first of the writes that wait; the others are gone. */
+        /** Those that are not done by then are gone: power has failed, or the disk is absent. */
         void doFirst(int many) {
             for (int w = 0; w < many && w < waiting; w++) {
                 int row = waitingRows[w];

@@ -2,7 +2,7 @@ import java.util.Random;
 
 /** Random runs of at most 512 calls, each answer against the model's. */
 public final class ModelTest {
-    private static final int RUNS = 3000;
+    private static final int RUNS = 6000;
     private static final int CALLS = 512;
 
     private final Check check = new Check("ModelTest");
@@ -20,8 +20,8 @@ public final class ModelTest {
         WideningArray array = new WideningArray();
         Model model = new Model();
         // A taste for some calls makes some runs deep in steps, others rich in trouble.
-        int stepTaste = 5 + random.nextInt(30);
-        int troubleTaste = random.nextInt(20);
+        int stepTaste = 2 + random.nextInt(25);
+        int troubleTaste = random.nextInt(25);
         for (int call = 0; call < CALLS && check.isClean(); call++) {
             String at = "run " + run + ", call " + call + ": ";
             int dice = random.nextInt(100);
@@ -48,7 +48,7 @@ public final class ModelTest {
     }
 
     private void trouble(String at, Random random, WideningArray array, Model model) {
-        int d = random.nextInt(8) - 1;
+        int d = someDisk(random, model);
         int w = random.nextInt(7);
         int c = random.nextInt();
         switch (random.nextInt(8)) {
@@ -82,10 +82,10 @@ public final class ModelTest {
         int b = someBlock(random, model);
         int i = random.nextInt(20) == 0 ? random.nextInt(8) - 2 : random.nextInt(4);
         int v = random.nextInt();
-        int d = random.nextInt(8) - 1;
-        int row = random.nextInt(42) - 1;
+        int d = someDisk(random, model);
+        int row = someRow(random, model);
         int what = random.nextInt(11) - 1;
-        switch (random.nextInt(14)) {
+        switch (random.nextInt(16)) {
             case 0:
             case 1:
             case 2:
@@ -100,6 +100,8 @@ public final class ModelTest {
                 break;
             case 7:
             case 8:
+            case 14:
+            case 15:
                 both(at + "cell(" + d + ", " + row + ", " + i + ")",
                         () -> array.cell(d, row, i), () -> model.cell(d, row, i));
                 break;
@@ -118,6 +120,24 @@ public final class ModelTest {
                 break;
             default:
                 both(at + "widen()", array::widen, model::widen);
+        }
+    }
+
+    /** Often a disk that keeps the stash. */
+    private static int someDisk(Random random, Model model) {
+        switch (random.nextInt(4)) {
+            case 0: return 0;
+            case 1: return model.count(0) - 1;
+            default: return random.nextInt(8) - 1;
+        }
+    }
+
+    /** Often a row of the stash, or the one that is laid next. */
+    private static int someRow(Random random, Model model) {
+        switch (random.nextInt(4)) {
+            case 0: return 32 + random.nextInt(6);
+            case 1: return Math.max(0, model.count(2)) + random.nextInt(3) - 1;
+            default: return random.nextInt(42) - 1;
         }
     }
 

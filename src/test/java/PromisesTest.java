@@ -607,6 +607,14 @@ public final class PromisesTest {
         CHECK.due("start", 1, x::start);
         dueCells("parity alone was written", x, 20, 100 ^ 42, 100, 42, 0);
 
+        // Row done, not stashed, is old: its parity on disk 2, the added disk has no part in it.
+        WideningArray z = widened(3, 0);
+        z.crash(1, 0x0001);
+        CHECK.powerFails("write", () -> z.write(0, 0, 100));
+        CHECK.due("start", 1, z::start);
+        dueCells("parity of row done", z, 0, 100, 2, 100 ^ 2, 0);
+        CHECK.due("good of row done", true, () -> z.good(0));
+
         WideningArray y = stashed(3, 4);
         // Row 4 of four disks: blocks 12, 13, 14 on disks 0, 1, 2; only disk 1 does its write.
         int[] before = {y.cell(0, 4, 0), 0, y.cell(2, 4, 0), y.cell(3, 4, 0)};
